@@ -747,13 +747,12 @@ public final class ScrapYard {
         private boolean takesNumber() {
             skipBlanks();
             int start = at;
+            // No digit can follow a NUMBER: a sixth one fails by itself, as what stands next.
+            int end = Math.min(text.length(), start + MOST_DIGITS);
             number = 0;
-            for (; at < text.length() && isBetween('0', text.charAt(at), '9'); at++) {
-                if (at - start == MOST_DIGITS) {
-                    place = at;
-                    return false;
-                }
+            while (at < end && isBetween('0', text.charAt(at), '9')) {
                 number = 10 * number + (text.charAt(at) - '0');
+                at++;
             }
             return at > start;
         }
@@ -944,6 +943,7 @@ public final class ScrapYard {
         /** least[s][at(h, t)]: the least sum s of t TONS out of HEAP h and those behind it. */
         private final int[][] least = new int[SUMS][(HEAPS + 1) * STEPS];
         private final int[] limits = new int[SUMS];
+        /** Of what is tried; each try takes away again what it adds. */
         private final int[] sums = new int[SUMS];
 
         /** The COST of the BEST CHARGE, whose TONS are chosen then; NONE: none is GOOD. */
@@ -957,7 +957,6 @@ public final class ScrapYard {
                 weigh(i, heaps[i], tons);
             }
             for (int s = 0; s < SUMS; s++) {
-                sums[s] = 0;
                 boundSum(s, tons);
             }
             tryFrom(0, tons);

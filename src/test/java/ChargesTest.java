@@ -113,7 +113,6 @@ public final class ChargesTest {
         yard.load(0, 3, 1, 2);
         yard.sample(3, 2, 11, 12);
         Check.is("melt", yard.melt(7), 0);
-        int[] due = {2, 3, 2, 1, 2, 1};
         int[] loads = {3, 1, 2};
         int[] tons = {2, 3, 2};
         Check.is("portions", yard.portions(0), 3);

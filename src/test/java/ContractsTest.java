@@ -57,6 +57,10 @@ public final class ContractsTest {
         placeIs("grade cux<1 pay 1;", 6);
         placeIs("grade c<1 pay 1;", 6);
         placeIs("grade cu", 8);
+        placeIs("grade cu pay 1;", 9);
+        placeIs("grade cu 5 pay 1;", 9);
+        placeIs("grade cu< pay 1;", 10);
+        placeIs("grade cu<,ni<1 pay 1;", 9);
         placeIs("grade cu =1", 9);
         placeIs("grade cu<<1", 9);
         placeIs("grade cu<-1", 9);

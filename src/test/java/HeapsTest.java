@@ -76,6 +76,12 @@ public final class HeapsTest {
         Check.is("count(4)", yard.count(4), 40);
         yard.mix(1);
         Check.is("count(4)", yard.count(4), 1);
+        for (int i = 0; i < 39; i++) {
+            yard.load(0, 0, 2, 1 + i % 3);
+        }
+        Check.is("topmost in part", yard.move(2, 3, 2), -3);
+        Check.is("topmost whole", yard.move(2, 3, 3), 1);
+        Check.is("two whole, the third in part", yard.move(2, 3, 4), -3);
     }
 
     private static void mixes() {
@@ -99,7 +105,9 @@ public final class HeapsTest {
         yard.load(0, 1, 1, 20);
         yard.move(1, 2, 5);
         yard.move(1, 2, 5);
+        Check.is("COST as it is moved", yard.layer(2, 0, 2), 11);
         Check.is("mix of one LOAD's", yard.mix(2), 2);
+        Check.is("COST, a whole mean", yard.layer(2, 0, 2), 11);
         Check.is("LOAD", yard.layer(2, 0, 1), -1);
         Check.is("LOW", yard.layer(2, 0, 3), 2);
     }

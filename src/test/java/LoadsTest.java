@@ -7,6 +7,7 @@ public final class LoadsTest {
     public static void main(String[] args) {
         toldOfLoads();
         sureTests();
+        namesOfMetals();
         refused();
         limits();
         wrongCalls();
@@ -67,6 +68,20 @@ public final class LoadsTest {
         gradeIs("grade cu>99999 pay 1;else pay 1;", 10000, 10000, 1);
         gradeIs("else pay 4;", 0, 10000, 0);
         gradeIs("grade ni<1 pay 1;grade cr<1 pay 1;grade sn<1 pay 1;grade ph<1 pay 1;grade cu<1 pay 1;", 0, 0, 4);
+    }
+
+    private static void namesOfMetals() {
+        String[] names = {"cu", "ni", "cr", "sn", "ph"};
+        for (int metal = 0; metal < 5; metal++) {
+            ScrapYard yard = gradingYard("grade " + names[metal] + "<6 pay 1;else pay 2;");
+            yard.load(1, 0, 0, 1);
+            for (int other = 0; other < 5; other++) {
+                yard.sample(0, other, 5, other == metal ? 6 : 5);
+            }
+            Check.is("GRADE by " + names[metal], yard.told(0, 4), 1);
+            yard.sample(0, metal, 5, 5);
+            Check.is("GRADE by " + names[metal], yard.told(0, 4), 0);
+        }
     }
 
     private static void gradeIs(String text, int low, int high, int grade) {

@@ -1,4 +1,5 @@
 import java.util.Arrays;
+import java.util.List;
 import java.util.Random;
 
 /**
@@ -15,7 +16,7 @@ public final class RandomRunsTest {
     };
     private static final int[] COUNTS = {0, 4, 0, 5, 3, 2, 4, 4, 2, 4, 1, 1, 3, 3, 1, 3, 1, 2, 1, 1, 3, 4, 1, 1, 1};
     /** How often each call is drawn, of the calls that are not a feed and its contract. */
-    private static final int[] WEIGHTS = {2, 10, 2, 1, 1, 3, 8, 40, 8, 25, 2, 2, 8, 22, 6, 6, 3, 5, 16, 2, 8, 25, 3, 4, 5};
+    private static final int[] WEIGHTS = {2, 10, 2, 1, 1, 3, 8, 40, 8, 20, 2, 2, 8, 22, 4, 12, 9, 12, 9, 2, 8, 20, 3, 2, 5};
     private static final String[] PIECES = {
         "grade", "cu", "ni", "cr", "sn", "ph", "<", ">", ",", "pay", ";", "else", " ", "  ", "7", "123456", "x", "=",
     };
@@ -46,7 +47,7 @@ public final class RandomRunsTest {
 
     private boolean agrees() {
         for (int i = 0; i < 3; i++) {
-            if (!same(0) || !same(2)) {
+            if (!same(0) || !same(2) || tame && !sameOpening(i)) {
                 return false;
             }
         }
@@ -57,6 +58,16 @@ public final class RandomRunsTest {
             }
         }
         return sameState();
+    }
+
+    /** Gives a new seller a contract that takes all, and a new kind spans of its own. */
+    private boolean sameOpening(int number) {
+        boolean fine = sameFed("else pay " + random.nextInt(4) + ";") && same(4, 11, number, 0);
+        for (int metal = 0; metal < 5; metal++) {
+            int low = random.nextInt(widest);
+            fine &= same(1, number, metal, low, low + random.nextInt(widest - low + 1));
+        }
+        return fine;
     }
 
     private boolean sameDrawn() {
@@ -72,6 +83,14 @@ public final class RandomRunsTest {
 
     private boolean sameContract() {
         String text = drawText();
+        if (!sameFed(text)) {
+            return false;
+        }
+        int n = Math.min(text.length(), model.tape.length());
+        return same(4, n, drawOf(model.sellers.size()), random.nextInt(3) == 0 ? 0 : random.nextInt(40));
+    }
+
+    private boolean sameFed(String text) {
         for (int at = 0; at < text.length(); at += 20) {
             int[] row = new int[5];
             for (int i = 0; i < 20; i++) {
@@ -81,8 +100,7 @@ public final class RandomRunsTest {
                 return false;
             }
         }
-        int n = Math.min(text.length(), model.tape.length());
-        return same(4, n, drawOf(model.sellers.size()), random.nextInt(3) == 0 ? 0 : random.nextInt(40));
+        return true;
     }
 
     private String drawText() {
@@ -192,13 +210,29 @@ public final class RandomRunsTest {
         to[3] = sum / tons + random.nextInt(5);
     }
 
+    /** Often all, else about what lies on the heaps, so that some charges are good and some not. */
     private void fillAsked(int[] to) {
         fill(to, 5, widest / 2 + 1, widest + 1);
         sortSpan(to, 1);
-        if (random.nextInt(3) != 0) {
-            to[1] = random.nextInt(3) * widest / 20;
-            to[2] = random.nextBoolean() ? 10000 : widest - random.nextInt(widest / 2);
+        Model.Part one = drawLayer();
+        Model.Part other = drawLayer();
+        if (random.nextInt(3) != 0 || one == null || other == null) {
+            to[1] = 0;
+            to[2] = 10000;
+        } else if (to[0] >= 0 && to[0] < 5 && random.nextInt(6) != 0) {
+            to[1] = random.nextBoolean() ? 0 : (one.low[to[0]] + other.low[to[0]]) / 2;
+            to[2] = random.nextBoolean() ? 10000 : (one.high[to[0]] + other.high[to[0]]) / 2;
         }
+    }
+
+    private Model.Part drawLayer() {
+        for (int tries = 0; tries < 10; tries++) {
+            List<Model.Part> heap = model.heaps.get(random.nextInt(6));
+            if (!heap.isEmpty()) {
+                return heap.get(random.nextInt(heap.size()));
+            }
+        }
+        return null;
     }
 
     private boolean same(int which, int... a) {
