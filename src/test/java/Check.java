@@ -1,6 +1,8 @@
 /** What the project's tests share: telling wrong answers, and contracts fed as texts. */
 final class Check {
     private static int wrong = 0;
+    /** Stands ahead of each fault: the sentence that the checks hold, where a test names one. */
+    private static String held = "";
 
     private Check() {
     }
@@ -25,9 +27,13 @@ final class Check {
         }
     }
 
+    static void of(String sentence) {
+        held = sentence;
+    }
+
     static void tell(String fault) {
         wrong++;
-        System.out.println(fault);
+        System.out.println(held + fault);
     }
 
     /** Ends the test's program, with exit code 1 if an answer was wrong. */
